@@ -1,6 +1,6 @@
 /**
  * Damp in a wall of cells, hour by hour. The document ../shared/DOC.md says what each call promises;
- * the names in capitals there are the names of the things here.
+ * words in capitals are its terms.
  */
 public final class WallDamp {
     /** There is none. */
@@ -430,10 +430,20 @@ public final class WallDamp {
         abstract void give(int much);
 
         abstract void take(int much);
+
+        final void fixHour(int dampNow, int pressureNow, int supplyNow, int roomNow) {
+            damp = dampNow;
+            pressure = pressureNow;
+            supply = supplyNow;
+            room = roomNow;
+            leaving = 0;
+            coming = 0;
+        }
     }
 
     /** Air gives and takes without end; what it gave and took is the BALANCE of its side. */
     private static final class Air extends Place {
+        /** Far above all that can flow in an hour. */
         private static final int ENDLESS = 1000000000;
 
         long gone;
@@ -453,12 +463,7 @@ public final class WallDamp {
         }
 
         void beginHour(Surroundings around, int dampNow) {
-            damp = dampNow;
-            pressure = around.pressureAt(warmth, damp);
-            supply = ENDLESS;
-            room = ENDLESS;
-            leaving = 0;
-            coming = 0;
+            fixHour(dampNow, around.pressureAt(warmth, dampNow), ENDLESS, ENDLESS);
         }
     }
 
@@ -504,12 +509,8 @@ public final class WallDamp {
         }
 
         void beginHour(Surroundings around) {
-            damp = dampOfHeld();
-            pressure = around.pressureAt(warmth, damp);
-            supply = held;
-            room = material.most() - held;
-            leaving = 0;
-            coming = 0;
+            int dampNow = dampOfHeld();
+            fixHour(dampNow, around.pressureAt(warmth, dampNow), held, material.most() - held);
         }
 
         void endHour() {
@@ -713,6 +714,7 @@ public final class WallDamp {
     /** Tries the layers of a wall in every order, on a wall of its own that is used again for each. */
     private static final class Trials {
         private static final int ORDERS_MOST = 120;
+        /** Far above what any wall can hold. */
         private static final long ENDLESS_WATER = 1000000000000L;
 
         final int[] driest;

@@ -13,6 +13,7 @@ public final class HoursTest {
         promise13LeavingIsLimitedBeforeComing();
         promise14Told();
         promise14Frost();
+        promise14FrostGoesByTheDampBehindTheHour();
         promise15Balance();
         promise16Mould();
         CHECK.end();
@@ -259,6 +260,16 @@ public final class HoursTest {
         CHECK.same("a dry one stays frozen while it is cold", x.told(0, 4), 1);
         x.run(3);
         CHECK.same("and thaws dry", x.told(0, 3), 3);
+    }
+
+    private static void promise14FrostGoesByTheDampBehindTheHour() {
+        WallDamp x = plainWall(2, 0, 1000);
+        x.outside(0, -100, 0, 0, 0);
+        x.inside(0, -100, 0);
+        x.water(0, 9000);
+        x.run(1);
+        CHECK.same("the cell that lost its water", x.told(0, 4), 0);
+        CHECK.same("the cell that it came to", x.told(1, 4), 1);
     }
 
     private static void promise15Balance() {

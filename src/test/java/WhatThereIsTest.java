@@ -97,6 +97,7 @@ public final class WhatThereIsTest {
         x.rates(0, 1000, 1000, 1000);
         x.rates(5, 0, 0, 1);
         liquidGoesByTheLesserNumber();
+        vapourGoesByTheLesserNumber();
         leadsTellTheWarmths();
         x.run(1);
         x.rates(0, 1, 1, 1);
@@ -113,6 +114,23 @@ public final class WhatThereIsTest {
         x.run(1);
         CHECK.same("liquid by 299, outer cell", x.told(0, 0), 701);
         CHECK.same("liquid by 299, inner cell", x.told(1, 0), 299);
+    }
+
+    private static void vapourGoesByTheLesserNumber() {
+        for (int inner = 0; inner < 2; inner++) {
+            WallDamp x = new WallDamp(2);
+            x.curve(0, 10000, 10000);
+            x.curve(1, 10000, 10000);
+            x.table(0, 10000);
+            x.rates(0, 200, 0, 100);
+            x.rates(1, 300, 0, 100);
+            x.cell(inner, 1, 10);
+            x.outside(0, 0, 1000, 0, 0);
+            x.water(0, 1000);
+            x.run(1);
+            CHECK.same("vapour by 200, outer cell", x.told(0, 0), 800);
+            CHECK.same("vapour by 200, inner cell", x.told(1, 0), 200);
+        }
     }
 
     private static void leadsTellTheWarmths() {
@@ -153,7 +171,9 @@ public final class WhatThereIsTest {
         CHECK.same("START", x.balance(5), 0);
         x.run(1);
         CHECK.illegalState("an hour is over", () -> x.cell(0, 0, 1));
-        CHECK.illegalArgument("an hour is over, and a wrong number", () -> x.cell(3, 0, 1));
+        CHECK.illegalArgument("an hour is over, and a wrong cell", () -> x.cell(3, 0, 1));
+        CHECK.illegalArgument("an hour is over, and a wrong material", () -> x.cell(0, 6, 1));
+        CHECK.illegalArgument("an hour is over, and a wrong thickness", () -> x.cell(0, 0, 1001));
     }
 
     private static void promise5Table() {
