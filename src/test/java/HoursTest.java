@@ -16,6 +16,7 @@ public final class HoursTest {
         promise14FrostGoesByTheDampBehindTheHour();
         promise15Balance();
         promise16Mould();
+        promise16MouldGoesByTheDampBehindTheHour();
         CHECK.end();
     }
 
@@ -332,5 +333,15 @@ public final class HoursTest {
         CHECK.same("at most 1000000", x.mould(), 1000000);
         x.run(1);
         CHECK.same("still", x.mould(), 1000000);
+    }
+
+    private static void promise16MouldGoesByTheDampBehindTheHour() {
+        WallDamp x = plainWall(2, 0, 1000);
+        x.growth(600, -5000, 10000, 7);
+        x.water(0, 600);
+        x.run(1);
+        CHECK.same("the last cell's damp as it has become", x.mould(), 7);
+        x.run(1);
+        CHECK.same("and when the water has gone on", x.mould(), 6);
     }
 }
