@@ -17,6 +17,12 @@ final class Check {
         same(what, so ? 1 : 0, 1);
     }
 
+    void waters(String what, WallDamp x, int... due) {
+        for (int k = 0; k < due.length; k++) {
+            same(what + ", water of cell " + k, x.told(k, 0), due[k]);
+        }
+    }
+
     void illegalArgument(String what, Runnable call) {
         thrown(what, call, IllegalArgumentException.class);
     }

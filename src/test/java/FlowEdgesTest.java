@@ -7,7 +7,9 @@ public final class FlowEdgesTest {
         liquidIsRoundedToNoughtEitherWay();
         vapourIsRoundedToNoughtEitherWay();
         theLesserNumberOfBoth();
+        vapourAndLiquidEachRoundedThenTogether();
         vapourAndLiquidTogetherAboveBelowAndAtNought();
+        vapourAndLiquidAreOneFlow();
         allByWhatIsThereAtTheBeginning();
         fromTheOutsideRoundedToNoughtEitherWay();
         rainIsRoundedDown();
@@ -31,6 +33,8 @@ public final class FlowEdgesTest {
         frozenBelowNoughtAndFromNineThousand();
         frozenUntilNoughtOrMore();
         onePassEachThaw();
+        frozenByTheDampBehindTheMoves();
+        mouldByTheDampBehindTheMoves();
         mouldFromTheRowsDamp();
         mouldFromAndToTheRowsWarmths();
         mouldByTheFirstRowThatFits();
@@ -41,64 +45,37 @@ public final class FlowEdgesTest {
         CHECK.end();
     }
 
-    /** Pressure, damp and water are the same number (0 .. 10000) in its cells, all of material 0. */
-    private static WallDamp plain(int cells, int vapour, int liquid) {
-        WallDamp x = new WallDamp(cells);
-        x.curve(0, 10000, 10000);
-        x.table(0, 10000);
-        x.rates(0, vapour, liquid, 100);
-        return x;
-    }
-
-    private static void air(WallDamp x, int outer, int inner) {
-        for (int hour = 0; hour < 24; hour++) {
-            x.outside(hour, 0, outer, 0, 0);
-            x.inside(hour, 0, inner);
-        }
-    }
-
-    private static void waters(String what, WallDamp x, int... due) {
-        for (int k = 0; k < due.length; k++) {
-            CHECK.same(what + ", water of cell " + k, x.told(k, 0), due[k]);
+    /** Two cells, one of them damper by so much, each as damp as the air beside it: what moves, either way. */
+    private static void moves(int vapour, int liquid, int[] damper, int[] moved) {
+        for (int i = 0; i < damper.length; i++) {
+            WallDamp x = Walls.plain(2, vapour, liquid);
+            int more = 3000 + damper[i];
+            Walls.air(x, more, 3000);
+            x.water(0, more);
+            x.water(1, 3000);
+            x.run(1);
+            CHECK.waters("inward by " + damper[i], x, more - moved[i], 3000 + moved[i]);
+            WallDamp y = Walls.plain(2, vapour, liquid);
+            Walls.air(y, 3000, more);
+            y.water(0, 3000);
+            y.water(1, more);
+            y.run(1);
+            CHECK.waters("outward by " + damper[i], y, 3000 + moved[i], more - moved[i]);
         }
     }
 
     /** "(damp of a less that of a + 1) times the lesser LIQUID number by 1000, rounded to 0" */
     private static void liquidIsRoundedToNoughtEitherWay() {
-        int[] less = {0, 1, 999, 1000, 1001, 1999, 2000};
-        int[] moves = {0, 0, 0, 1, 1, 1, 2};
-        for (int i = 0; i < less.length; i++) {
-            WallDamp x = plain(2, 0, 1);
-            x.water(0, 3000 + less[i]);
-            x.water(1, 3000);
-            x.run(1);
-            waters("inward by " + less[i], x, 3000 + less[i] - moves[i], 3000 + moves[i]);
-            WallDamp y = plain(2, 0, 1);
-            y.water(0, 3000);
-            y.water(1, 3000 + less[i]);
-            y.run(1);
-            waters("outward by " + less[i], y, 3000 + moves[i], 3000 + less[i] - moves[i]);
-        }
+        moves(0, 1, new int[] {0, 1, 999, 1000, 1001, 1999, 2000}, new int[] {0, 0, 0, 1, 1, 1, 2});
     }
 
     /** "(pressure of a less that of a + 1) times the lesser VAPOUR number of both by 1000, rounded to 0" */
     private static void vapourIsRoundedToNoughtEitherWay() {
-        int[] less = {0, 1, 999, 1000, 1001, 1999, 2000};
-        int[] moves = {0, 0, 0, 1, 1, 1, 2};
-        for (int i = 0; i < less.length; i++) {
-            WallDamp x = plain(2, 1, 0);
-            air(x, 3000 + less[i], 3000);
-            x.water(0, 3000 + less[i]);
-            x.water(1, 3000);
-            x.run(1);
-            waters("inward by " + less[i], x, 3000 + less[i] - moves[i], 3000 + moves[i]);
-            WallDamp y = plain(2, 1, 0);
-            air(y, 3000, 3000 + less[i]);
-            y.water(0, 3000);
-            y.water(1, 3000 + less[i]);
-            y.run(1);
-            waters("outward by " + less[i], y, 3000 + moves[i], 3000 + less[i] - moves[i]);
-        }
+        moves(1, 0, new int[] {0, 1, 999, 1000, 1001, 1999, 2000}, new int[] {0, 0, 0, 1, 1, 1, 2});
+    }
+
+    private static void vapourAndLiquidEachRoundedThenTogether() {
+        moves(100, 100, new int[] {9, 10, 19, 20}, new int[] {0, 2, 2, 4});
     }
 
     private static void theLesserNumberOfBoth() {
@@ -106,16 +83,16 @@ public final class FlowEdgesTest {
         for (int[] pair : numbers) {
             int lesser = Math.min(pair[0], pair[1]);
             for (int vapour = 0; vapour <= 1; vapour++) {
-                WallDamp x = plain(2, 0, 0);
+                WallDamp x = Walls.plain(2, 0, 0);
                 x.curve(1, 10000, 10000);
                 x.rates(0, vapour * pair[0], (1 - vapour) * pair[0], 100);
                 x.rates(1, vapour * pair[1], (1 - vapour) * pair[1], 100);
                 x.cell(1, 1, 10);
-                air(x, 2000, 1000);
+                Walls.air(x, 2000, 1000);
                 x.water(0, 2000);
                 x.water(1, 1000);
                 x.run(1);
-                waters("numbers " + pair[0] + " and " + pair[1], x, 2000 - lesser, 1000 + lesser);
+                CHECK.waters("numbers " + pair[0] + " and " + pair[1], x, 2000 - lesser, 1000 + lesser);
             }
         }
     }
@@ -141,41 +118,87 @@ public final class FlowEdgesTest {
             x.run(1);
             CHECK.same("nothing goes out", x.balance(3) + x.balance(1), 0);
             CHECK.same("400 go in", x.balance(4), 400);
-            waters("liquid " + liquid[i], x, 2000 - inward[i], 4000 + inward[i] - 400);
+            CHECK.waters("liquid " + liquid[i], x, 2000 - inward[i], 4000 + inward[i] - 400);
         }
+    }
+
+    /** "together": one flow, of which one part is rounded down if too much would leave or come. */
+    private static void vapourAndLiquidAreOneFlow() {
+        WallDamp x = new WallDamp(2);
+        x.curve(0, 10, 10000);
+        x.table(0, 1000);
+        x.rates(0, 1000, 1000, 100);
+        x.water(0, 10);
+        x.run(1);
+        CHECK.waters("1000 out, 1000 and 10000 inward of 10", x, 1, 9);
+        WallDamp y = Walls.plain(2, 1000, 1000);
+        y.curve(1, 8, 8);
+        y.rates(1, 1000, 1000, 100);
+        y.cell(1, 1, 10);
+        y.leak(1, 1000);
+        Walls.air(y, 20, 5);
+        y.water(0, 20);
+        y.run(1);
+        CHECK.waters("20 and 20 inward of 20, and 5 and 5 from the inside, into 8", y, 20 - 5, 5 + 1 + 1);
+        WallDamp z = new WallDamp(2);
+        z.curve(0, 5, 2000);
+        z.curve(1, 10, 4000);
+        z.films(0, 0);
+        z.table(0, 1000);
+        z.table(1000, 11000);
+        z.rates(0, 1000, 150, 100);
+        z.rates(1, 1000, 150, 100);
+        z.cell(1, 1, 10);
+        z.outside(0, 1000, 1546, 0, 0);
+        z.inside(0, 0, 10000);
+        z.water(0, 5);
+        z.water(1, 10);
+        z.run(1);
+        CHECK.waters("300 each way are nothing, and 400 go in of 10", z, 5, 0);
     }
 
     /** "FLOWS, all by what is there at the hour's beginning" */
     private static void allByWhatIsThereAtTheBeginning() {
-        WallDamp x = plain(4, 0, 1000);
+        WallDamp x = Walls.plain(4, 0, 1000);
         x.water(0, 100);
         x.run(1);
-        waters("one cell further each hour", x, 0, 100, 0, 0);
+        CHECK.waters("one cell further each hour", x, 0, 100, 0, 0);
         x.run(1);
-        waters("both ways from there", x, 50, 0, 50, 0);
+        CHECK.waters("both ways from there", x, 50, 0, 50, 0);
         x.run(1);
-        waters("and on", x, 0, 75, 0, 25);
-        WallDamp y = plain(2, 0, 1000);
+        CHECK.waters("and on", x, 0, 75, 0, 25);
+        WallDamp y = Walls.plain(2, 0, 1000);
         y.water(0, 40);
         y.water(1, 10);
         y.run(1);
-        waters("by 40 less 10, not by what has moved", y, 10, 40);
+        CHECK.waters("by 40 less 10, not by what has moved", y, 10, 40);
+    }
+
+    /**
+     * Two cells of damp 5000 with vapour 1, the air on one side damper or drier: what comes to the cell beside it,
+     * or goes, as the balances of that side tell.
+     */
+    private static void comesFromTheAir(boolean outer) {
+        int[] damper = {-2000, -1999, -1000, -999, -1, 0, 1, 999, 1000, 1999, 2000};
+        int[] comes = {-2, -1, -1, 0, 0, 0, 0, 0, 1, 1, 2};
+        int came = outer ? 1 : 2;
+        int went = outer ? 3 : 4;
+        for (int i = 0; i < damper.length; i++) {
+            WallDamp x = Walls.plain(2, 1, 0);
+            Walls.air(x, outer ? 5000 + damper[i] : 5000, outer ? 5000 : 5000 + damper[i]);
+            x.water(0, 5000);
+            x.water(1, 5000);
+            x.run(1);
+            CHECK.waters("air by " + damper[i], x, 5000 + (outer ? comes[i] : 0), 5000 + (outer ? 0 : comes[i]));
+            CHECK.same("came by " + damper[i], x.balance(came), Math.max(0, comes[i]));
+            CHECK.same("went by " + damper[i], x.balance(went), Math.max(0, -comes[i]));
+            CHECK.same("nothing on the other side", x.balance(3 - came) + x.balance(7 - went), 0);
+        }
     }
 
     /** "From the outside to cell 0: ... rounded to 0 (below 0 it goes out)" */
     private static void fromTheOutsideRoundedToNoughtEitherWay() {
-        int[] less = {-2000, -1999, -1000, -999, -1, 0, 1, 999, 1000, 1999, 2000};
-        int[] comes = {-2, -1, -1, 0, 0, 0, 0, 0, 1, 1, 2};
-        for (int i = 0; i < less.length; i++) {
-            WallDamp x = plain(1, 1, 0);
-            air(x, 5000 + less[i], 5000);
-            x.water(0, 5000);
-            x.run(1);
-            waters("outside by " + less[i], x, 5000 + comes[i]);
-            CHECK.same("came from the outside by " + less[i], x.balance(1), Math.max(0, comes[i]));
-            CHECK.same("went out by " + less[i], x.balance(3), Math.max(0, -comes[i]));
-            CHECK.same("nothing to do with the inside", x.balance(2) + x.balance(4), 0);
-        }
+        comesFromTheAir(true);
     }
 
     /** "RAIN times its LIQUID number by 100, rounded down" */
@@ -184,33 +207,21 @@ public final class FlowEdgesTest {
         int[] liquid = {1000, 0, 99, 100, 199, 1, 1, 1, 1000, 0, 333};
         int[] comes = {0, 0, 0, 1, 1, 0, 1, 10, 10000, 0, 23};
         for (int i = 0; i < rain.length; i++) {
-            WallDamp x = plain(1, 0, liquid[i]);
+            WallDamp x = Walls.plain(1, 0, liquid[i]);
             x.outside(0, 0, 0, rain[i], 0);
             x.run(1);
             CHECK.same("rain " + rain[i] + ", liquid " + liquid[i], x.balance(1), comes[i]);
-            waters("rain " + rain[i] + ", liquid " + liquid[i], x, comes[i]);
+            CHECK.waters("rain " + rain[i] + ", liquid " + liquid[i], x, comes[i]);
         }
-        WallDamp y = plain(3, 0, 1000);
+        WallDamp y = Walls.plain(3, 0, 1000);
         y.outside(0, 0, 0, 1, 0);
         y.run(1);
-        waters("rain comes to cell 0 alone", y, 10, 0, 0);
+        CHECK.waters("rain comes to cell 0 alone", y, 10, 0, 0);
     }
 
     /** "From the inside to the last cell: likewise without rain." */
     private static void fromTheInsideRoundedToNoughtEitherWay() {
-        int[] less = {-2000, -1999, -1000, -999, -1, 0, 1, 999, 1000, 1999, 2000};
-        int[] comes = {-2, -1, -1, 0, 0, 0, 0, 0, 1, 1, 2};
-        for (int i = 0; i < less.length; i++) {
-            WallDamp x = plain(2, 1, 0);
-            air(x, 5000, 5000 + less[i]);
-            x.water(0, 5000);
-            x.water(1, 5000);
-            x.run(1);
-            waters("inside by " + less[i], x, 5000, 5000 + comes[i]);
-            CHECK.same("came from the inside by " + less[i], x.balance(2), Math.max(0, comes[i]));
-            CHECK.same("went in by " + less[i], x.balance(4), Math.max(0, -comes[i]));
-            CHECK.same("nothing to do with the outside", x.balance(1) + x.balance(3), 0);
-        }
+        comesFromTheAir(false);
     }
 
     /** "From the inside to each cell: ..., if that is above 0." */
@@ -218,12 +229,12 @@ public final class FlowEdgesTest {
         int[] inner = {0, 1, 1999, 2000, 2001, 10000};
         int[] comes = {0, 0, 0, 0, 1, 8000};
         for (int i = 0; i < inner.length; i++) {
-            WallDamp x = plain(2, 0, 0);
-            air(x, 10000, inner[i]);
+            WallDamp x = Walls.plain(2, 0, 0);
+            Walls.air(x, 10000, inner[i]);
             x.water(0, 2000);
             x.leak(0, 1000);
             x.run(1);
-            waters("pressure inside " + inner[i], x, 2000 + comes[i], 0);
+            CHECK.waters("pressure inside " + inner[i], x, 2000 + comes[i], 0);
             CHECK.same("leaked from the inside", x.balance(2), comes[i]);
             CHECK.same("nothing leaks to the inside", x.balance(4), 0);
         }
@@ -235,8 +246,8 @@ public final class FlowEdgesTest {
         int[] leak = {999, 1000, 1, 1, 1, 1, 0, 1000};
         int[] comes = {0, 1, 0, 1, 1, 2, 0, 10000};
         for (int i = 0; i < inner.length; i++) {
-            WallDamp x = plain(1, 0, 0);
-            air(x, 0, inner[i]);
+            WallDamp x = Walls.plain(1, 0, 0);
+            Walls.air(x, 0, inner[i]);
             x.leak(0, leak[i]);
             x.run(1);
             CHECK.same("pressure inside " + inner[i] + ", leak " + leak[i], x.balance(2), comes[i]);
@@ -244,8 +255,8 @@ public final class FlowEdgesTest {
     }
 
     private static void everyCellMayLeak() {
-        WallDamp x = plain(12, 0, 0);
-        air(x, 0, 1000);
+        WallDamp x = Walls.plain(12, 0, 0);
+        Walls.air(x, 0, 1000);
         for (int k = 0; k < 12; k++) {
             x.leak(k, 10 * (k + 1));
         }
@@ -257,40 +268,40 @@ public final class FlowEdgesTest {
     }
 
     private static void oneCellIsTheFirstAndTheLast() {
-        WallDamp x = plain(1, 100, 100);
+        WallDamp x = Walls.plain(1, 100, 100);
         x.outside(0, 0, 3000, 5, 0);
         x.inside(0, 0, 2000);
         x.leak(0, 300);
         x.run(1);
         CHECK.same("vapour 300 and rain 5 from the outside", x.balance(1), 305);
         CHECK.same("vapour 200 and a leak of 600 from the inside", x.balance(2), 800);
-        waters("all of it", x, 1105);
+        CHECK.waters("all of it", x, 1105);
     }
 
     /** "All that would leave a cell together may be more than its water": it is not if it is just as much. */
     private static void leavingJustTheWater() {
-        WallDamp x = plain(3, 0, 500);
+        WallDamp x = Walls.plain(3, 0, 500);
         x.water(1, 10);
         x.run(1);
-        waters("5 each way of 10", x, 5, 0, 5);
-        WallDamp y = plain(2, 0, 1000);
+        CHECK.waters("5 each way of 10", x, 5, 0, 5);
+        WallDamp y = Walls.plain(2, 0, 1000);
         y.water(0, 10);
         y.run(1);
-        waters("10 of 10", y, 0, 10);
-        WallDamp z = plain(1, 500, 0);
+        CHECK.waters("10 of 10", y, 0, 10);
+        WallDamp z = Walls.plain(1, 500, 0);
         z.water(0, 10000);
         z.run(1);
         CHECK.same("5000 out", z.balance(3), 5000);
         CHECK.same("5000 in", z.balance(4), 5000);
-        waters("and nothing stays", z, 0);
+        CHECK.waters("and nothing stays", z, 0);
     }
 
     /** "then each of these is itself times the water by all of them, rounded down" */
     private static void leavingMoreThanTheWater() {
-        WallDamp x = plain(3, 0, 1000);
+        WallDamp x = Walls.plain(3, 0, 1000);
         x.water(1, 9);
         x.run(1);
-        waters("9 each way of 9", x, 4, 1, 4);
+        CHECK.waters("9 each way of 9", x, 4, 1, 4);
         WallDamp y = new WallDamp(1);
         y.curve(0, 10, 10000);
         y.rates(0, 1000, 0, 100);
@@ -299,13 +310,13 @@ public final class FlowEdgesTest {
         y.run(1);
         CHECK.same("3 of 7 out", y.balance(3), 3);
         CHECK.same("3 of 7 in", y.balance(4), 3);
-        waters("1 of 7 stays", y, 1);
+        CHECK.waters("1 of 7 stays", y, 1);
         WallDamp z = new WallDamp(2);
         z.curve(0, 10, 10000);
         z.rates(0, 0, 1000, 100);
         z.water(0, 3);
         z.run(1);
-        waters("one flow of 3000 takes all of 3", z, 0, 3);
+        CHECK.waters("one flow of 3000 takes all of 3", z, 0, 3);
         WallDamp great = new WallDamp(2);
         great.curve(0, 100000, 10000);
         great.table(0, 100000);
@@ -313,23 +324,23 @@ public final class FlowEdgesTest {
         great.water(0, 100000);
         great.run(1);
         CHECK.same("100000 out and 110000 inward of 100000: out", great.balance(3), 47619);
-        waters("100000 out and 110000 inward of 100000", great, 1, 52380);
+        CHECK.waters("100000 out and 110000 inward of 100000", great, 1, 52380);
     }
 
     private static void leavingUnlikeParts() {
-        WallDamp x = plain(3, 0, 1000);
+        WallDamp x = Walls.plain(3, 0, 1000);
         x.curve(1, 10000, 10000);
         x.rates(1, 0, 200, 100);
         x.cell(0, 1, 10);
         x.water(1, 100);
         x.run(1);
-        waters("20 outward and 100 inward of 100", x, 16, 1, 83);
+        CHECK.waters("20 outward and 100 inward of 100", x, 16, 1, 83);
     }
 
     private static void leavingAnEmptyCell() {
-        WallDamp x = plain(3, 1000, 1000);
+        WallDamp x = Walls.plain(3, 1000, 1000);
         x.run(1);
-        waters("nothing leaves an empty cell", x, 0, 0, 0);
+        CHECK.waters("nothing leaves an empty cell", x, 0, 0, 0);
         CHECK.same("nothing went", x.balance(3) + x.balance(4), 0);
         WallDamp y = new WallDamp(2);
         y.curve(0, 1000000, 10000);
@@ -337,7 +348,7 @@ public final class FlowEdgesTest {
         y.table(0, 10000);
         y.water(0, 99);
         y.run(1);
-        waters("nor one whose damp is rounded down to 0", y, 99, 0);
+        CHECK.waters("nor one whose damp is rounded down to 0", y, 99, 0);
     }
 
     /** "All that would then come to a cell together may be more than MOST less its water": not if just as much. */
@@ -348,17 +359,17 @@ public final class FlowEdgesTest {
         x.outside(0, 0, 0, 3, 0);
         x.outside(1, 0, 0, 1, 0);
         x.run(1);
-        waters("30 into 30", x, 30);
+        CHECK.waters("30 into 30", x, 30);
         x.water(0, 20);
         x.run(1);
-        waters("10 into 10", x, 30);
+        CHECK.waters("10 into 10", x, 30);
         WallDamp y = new WallDamp(1);
         y.curve(0, 60, 10000);
         y.rates(0, 300, 1000, 100);
         y.table(0, 100);
         y.outside(0, 0, 10000, 3, 0);
         y.run(1);
-        waters("30 by vapour and 30 by rain into 60", y, 60);
+        CHECK.waters("30 by vapour and 30 by rain into 60", y, 60);
     }
 
     /** "then each of these is itself times that room by all of them, rounded down" */
@@ -368,14 +379,14 @@ public final class FlowEdgesTest {
         x.rates(0, 0, 1000, 100);
         x.outside(0, 0, 0, 3, 0);
         x.run(1);
-        waters("30 into 29", x, 29);
+        CHECK.waters("30 into 29", x, 29);
         WallDamp y = new WallDamp(1);
         y.curve(0, 59, 10000);
         y.rates(0, 300, 1000, 100);
         y.table(0, 100);
         y.outside(0, 0, 10000, 3, 0);
         y.run(1);
-        waters("30 by vapour and 30 by rain into 59: 29 each", y, 58);
+        CHECK.waters("30 by vapour and 30 by rain into 59: 29 each", y, 58);
         WallDamp great = new WallDamp(1);
         great.curve(0, 99999, 10000);
         great.rates(0, 1000, 1000, 100);
@@ -401,12 +412,12 @@ public final class FlowEdgesTest {
         x.water(0, 200);
         x.water(2, 80);
         x.run(1);
-        waters("200 inward, 80 outward and 20 by a leak into 100", x, 134, 66 + 26 + 6, 54);
+        CHECK.waters("200 inward, 80 outward and 20 by a leak into 100", x, 134, 66 + 26 + 6, 54);
         CHECK.same("leaked", x.balance(2), 6);
     }
 
     private static void comingToAFullCell() {
-        WallDamp x = plain(3, 0, 1000);
+        WallDamp x = Walls.plain(3, 0, 1000);
         x.curve(1, 50, 50);
         x.rates(1, 0, 1000, 100);
         x.cell(1, 1, 10);
@@ -414,22 +425,22 @@ public final class FlowEdgesTest {
         x.water(1, 50);
         x.water(2, 9000);
         x.leak(1, 1000);
-        air(x, 0, 10000);
+        Walls.air(x, 0, 10000);
         x.run(1);
-        waters("nothing comes to a full cell", x, 9000, 50, 9000);
+        CHECK.waters("nothing comes to a full cell", x, 9000, 50, 9000);
         CHECK.same("no leak either", x.balance(2), 0);
     }
 
     private static void comingToACellThatHoldsNothing() {
-        WallDamp x = plain(3, 1000, 1000);
+        WallDamp x = Walls.plain(3, 1000, 1000);
         x.rates(1, 1000, 1000, 100);
         x.cell(1, 1, 10);
         x.leak(1, 1000);
-        air(x, 5000, 5000);
+        Walls.air(x, 5000, 5000);
         x.water(0, 5000);
         x.water(2, 5000);
         x.run(3);
-        waters("MOST is 0 in between", x, 5000, 0, 5000);
+        CHECK.waters("MOST is 0 in between", x, 5000, 0, 5000);
         CHECK.same("nothing came", x.balance(1) + x.balance(2), 0);
         WallDamp y = new WallDamp(1);
         y.rates(0, 1000, 1000, 100);
@@ -438,7 +449,7 @@ public final class FlowEdgesTest {
         y.inside(0, 0, 10000);
         y.leak(0, 1000);
         y.run(1);
-        waters("MOST is 0 in a wall of one", y, 0);
+        CHECK.waters("MOST is 0 in a wall of one", y, 0);
         CHECK.same("nothing came to it", y.balance(1) + y.balance(2), 0);
     }
 
@@ -451,7 +462,7 @@ public final class FlowEdgesTest {
         x.outside(1, 0, 0, 50, 0);
         x.water(0, 100);
         x.run(1);
-        waters("a full cell gave all and took no rain", x, 0, 100);
+        CHECK.waters("a full cell gave all and took no rain", x, 0, 100);
         CHECK.same("no rain came", x.balance(1), 0);
         WallDamp y = new WallDamp(2);
         y.curve(0, 100, 100);
@@ -459,7 +470,7 @@ public final class FlowEdgesTest {
         y.outside(0, 0, 0, 50, 0);
         y.water(0, 99);
         y.run(1);
-        waters("room for 1 when 99 leave", y, 1, 99);
+        CHECK.waters("room for 1 when 99 leave", y, 1, 99);
         CHECK.same("rain for that room", y.balance(1), 1);
     }
 
@@ -476,24 +487,24 @@ public final class FlowEdgesTest {
         x.leak(1, 1000);
         x.water(0, 5);
         x.run(1);
-        waters("5 (not 5000) and a leak of 4 into 8", x, 1, 4 + 3);
+        CHECK.waters("5 (not 5000) and a leak of 4 into 8", x, 1, 4 + 3);
         CHECK.same("3 leaked", x.balance(2), 3);
     }
 
     /** "So much moves.": what finds no room stays where it was, and goes no other way instead. */
     private static void whatFindsNoRoomStays() {
-        WallDamp x = plain(3, 0, 1000);
+        WallDamp x = Walls.plain(3, 0, 1000);
         x.curve(1, 1, 1);
         x.rates(1, 0, 1000, 100);
         x.cell(2, 1, 10);
         x.water(1, 100);
         x.run(1);
-        waters("50 outward, 1 of 50 inward", x, 50, 49, 1);
+        CHECK.waters("50 outward, 1 of 50 inward", x, 50, 49, 1);
         CHECK.same("none lost", x.balance(0), 100);
     }
 
     private static WallDamp held(int water) {
-        WallDamp x = plain(1, 0, 0);
+        WallDamp x = Walls.plain(1, 0, 0);
         x.water(0, water);
         return x;
     }
@@ -547,13 +558,45 @@ public final class FlowEdgesTest {
             CHECK.same("frozen with " + hour + " hours over", x.told(0, 4), hour % 3 == 0 ? 1 : 0);
             CHECK.same("passes with " + hour + " hours over", x.told(0, 3), (hour + 2) / 3);
         }
-        WallDamp y = plain(3, 0, 0);
+        WallDamp y = Walls.plain(3, 0, 0);
         y.water(1, 9000);
         warmth(y, 0, ALWAYS_COLD);
         y.run(2);
         CHECK.same("a dry cell has no pass", y.told(0, 3), 0);
         CHECK.same("the wet one has", y.told(1, 3), 1);
         CHECK.same("the last one has none", y.told(2, 3), 0);
+    }
+
+    /** "So much moves. Then: ...": two cells with liquid 1000 change their waters in an hour. */
+    private static void frozenByTheDampBehindTheMoves() {
+        int[] outer = {9000, 9000, 8999, 9000};
+        int[] inner = {0, 8999, 9000, 9000};
+        int[] outerFrozen = {0, 0, 1, 1};
+        int[] innerFrozen = {1, 1, 0, 1};
+        for (int i = 0; i < outer.length; i++) {
+            WallDamp x = Walls.plain(2, 0, 1000);
+            warmth(x, 0, ALWAYS_COLD);
+            x.water(0, outer[i]);
+            x.water(1, inner[i]);
+            x.run(1);
+            CHECK.waters("changed", x, inner[i], outer[i]);
+            CHECK.same("the outer one, of " + inner[i] + " now", x.told(0, 4), outerFrozen[i]);
+            CHECK.same("the inner one, of " + outer[i] + " now", x.told(1, 4), innerFrozen[i]);
+        }
+    }
+
+    private static void mouldByTheDampBehindTheMoves() {
+        int[] outer = {3000, 2999, 3000};
+        int[] inner = {0, 3000, 2999};
+        int[] mould = {7, 0, 7};
+        for (int i = 0; i < outer.length; i++) {
+            WallDamp x = Walls.plain(2, 0, 1000);
+            x.growth(3000, -5000, 10000, 7);
+            x.water(0, outer[i]);
+            x.water(1, inner[i]);
+            x.run(1);
+            CHECK.same("the last cell, of " + outer[i] + " now", x.mould(), mould[i]);
+        }
     }
 
     /** "the last cell's damp is not less than the row's" */
@@ -613,7 +656,7 @@ public final class FlowEdgesTest {
     }
 
     private static void mouldOfTheLastCell() {
-        WallDamp x = plain(3, 0, 0);
+        WallDamp x = Walls.plain(3, 0, 0);
         x.growth(5000, -5000, 10000, 7);
         x.water(0, 10000);
         x.water(1, 10000);
@@ -622,8 +665,8 @@ public final class FlowEdgesTest {
         x.water(2, 5000);
         x.run(1);
         CHECK.same("its damp now", x.mould(), 7);
-        WallDamp y = plain(2, 0, 0);
-        y.growth(0, 600, 5000, 7);
+        WallDamp y = Walls.plain(2, 0, 0);
+        y.growth(0, 600, 650, 7);
         y.outside(0, 1000, 0, 0, 0);
         y.inside(1, 1000, 0);
         y.run(1);
@@ -689,7 +732,7 @@ public final class FlowEdgesTest {
 
     /** "Then one more hour is over." */
     private static void oneMoreHourIsOver() {
-        WallDamp x = plain(1, 0, 0);
+        WallDamp x = Walls.plain(1, 0, 0);
         warmth(x, 0, 100);
         warmth(x, 1, 200);
         CHECK.same("the first hour", x.run(1), 1);

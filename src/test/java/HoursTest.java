@@ -5,7 +5,7 @@ public final class HoursTest {
     public static void main(String[] args) {
         promise13Run();
         promise13Warmths();
-        promise13EachFlowRoundedToNought();
+        promise13VapourAndLiquidTogether();
         promise13FlowsWithTheAir();
         promise13MoreWouldLeaveThanThereIs();
         promise13MoreWouldComeThanThereIsRoom();
@@ -18,28 +18,6 @@ public final class HoursTest {
         promise16Mould();
         promise16MouldGoesByTheDampBehindTheHour();
         CHECK.end();
-    }
-
-    /** Pressure is the damp, and so is the water, so that flows can be read off the waters. */
-    private static WallDamp plainWall(int cells, int vapour, int liquid) {
-        WallDamp x = new WallDamp(cells);
-        x.curve(0, 10000, 10000);
-        x.table(0, 10000);
-        x.rates(0, vapour, liquid, 100);
-        return x;
-    }
-
-    private static void airDamps(WallDamp x, int outer, int inner) {
-        for (int hour = 0; hour < 24; hour++) {
-            x.outside(hour, 0, outer, 0, 0);
-            x.inside(hour, 0, inner);
-        }
-    }
-
-    private static void waters(String what, WallDamp x, int... due) {
-        for (int k = 0; k < due.length; k++) {
-            CHECK.same(what + ", water of cell " + k, x.told(k, 0), due[k]);
-        }
     }
 
     private static void promise13Run() {
@@ -81,48 +59,32 @@ public final class HoursTest {
         CHECK.same("great resistances, inner", z.told(1, 2), -5000 + (int) (10000L * 201006 / 202014));
     }
 
-    private static void promise13EachFlowRoundedToNought() {
-        int[] less = {9, 10, 19, 20};
-        int[] moved = {0, 2, 2, 4};
-        for (int i = 0; i < less.length; i++) {
-            WallDamp x = plainWall(2, 100, 100);
-            airDamps(x, 1000 + less[i], 1000);
-            x.water(0, 1000 + less[i]);
-            x.water(1, 1000);
-            x.run(1);
-            waters("inward by " + less[i], x, 1000 + less[i] - moved[i], 1000 + moved[i]);
-            WallDamp y = plainWall(2, 100, 100);
-            airDamps(y, 1000, 1000 + less[i]);
-            y.water(0, 1000);
-            y.water(1, 1000 + less[i]);
-            y.run(1);
-            waters("outward by " + less[i], y, 1000 + moved[i], 1000 + less[i] - moved[i]);
-        }
-        WallDamp z = plainWall(2, 10, 1000);
+    private static void promise13VapourAndLiquidTogether() {
+        WallDamp z = Walls.plain(2, 10, 1000);
         z.outside(0, 0, 500, 0, 0);
         z.water(0, 300);
         z.water(1, 500);
         z.inside(0, 0, 500);
         z.run(1);
-        waters("vapour and liquid together", z, 300 + 2 + 200 + 2, 500 - 200 - 2);
+        CHECK.waters("vapour and liquid together", z, 300 + 2 + 200 + 2, 500 - 200 - 2);
     }
 
     private static void promise13FlowsWithTheAir() {
-        WallDamp x = plainWall(1, 500, 0);
-        airDamps(x, 0, 4001);
+        WallDamp x = Walls.plain(1, 500, 0);
+        Walls.air(x, 0, 4001);
         x.water(0, 999);
         x.run(1);
         CHECK.same("out by half, rounded to 0", x.balance(3), 499);
         CHECK.same("from the inside by half, rounded to 0", x.balance(2), 1501);
-        waters("both at once", x, 999 - 499 + 1501);
-        WallDamp y = plainWall(1, 500, 1000);
+        CHECK.waters("both at once", x, 999 - 499 + 1501);
+        WallDamp y = Walls.plain(1, 500, 1000);
         y.outside(0, 0, 0, 30, 0);
         y.water(0, 1000);
         y.run(1);
         CHECK.same("rain comes in", y.balance(1), 300);
         CHECK.same("while vapour goes out", y.balance(3), 500);
         CHECK.same("and in", y.balance(4), 500);
-        waters("rain and vapour", y, 300);
+        CHECK.waters("rain and vapour", y, 300);
         WallDamp z = new WallDamp(1);
         z.curve(0, 100000, 10000);
         z.rates(0, 1000, 0, 100);
@@ -139,14 +101,14 @@ public final class HoursTest {
         x.rates(0, 0, 300, 100);
         x.water(1, 9);
         x.run(1);
-        waters("half of 9 each way, rounded down", x, 4, 1, 4);
+        CHECK.waters("half of 9 each way, rounded down", x, 4, 1, 4);
         WallDamp y = new WallDamp(2);
         y.curve(0, 10, 10000);
         y.table(0, 1000);
         y.rates(0, 1000, 1000, 100);
         y.water(0, 10);
         y.run(1);
-        waters("1000 out, 11000 inward", y, 1, 9);
+        CHECK.waters("1000 out, 11000 inward", y, 1, 9);
         CHECK.same("what went out", y.balance(3), 0);
     }
 
@@ -181,7 +143,7 @@ public final class HoursTest {
         x.outside(0, 0, 0, 500, 0);
         x.water(0, 100);
         x.run(1);
-        waters("a full cell gives and takes nothing", x, 80);
+        CHECK.waters("a full cell gives and takes nothing", x, 80);
         CHECK.same("no rain came", x.balance(1), 0);
         x.run(23);
         int before = x.told(0, 0);
@@ -201,12 +163,12 @@ public final class HoursTest {
         x.inside(0, 0, 10000);
         x.water(0, 8);
         x.run(1);
-        waters("80 are limited to 8, then 8 and 8 share the room", x, 3, 10);
+        CHECK.waters("80 are limited to 8, then 8 and 8 share the room", x, 3, 10);
         CHECK.same("what leaked", x.balance(2), 5);
     }
 
     private static void promise14Told() {
-        WallDamp x = plainWall(2, 0, 1000);
+        WallDamp x = Walls.plain(2, 0, 1000);
         CHECK.illegalArgument("cell -1", () -> x.told(-1, 0));
         CHECK.illegalArgument("cell 2", () -> x.told(2, 0));
         CHECK.illegalArgument("what -1", () -> x.told(0, -1));
@@ -264,7 +226,7 @@ public final class HoursTest {
     }
 
     private static void promise14FrostGoesByTheDampBehindTheHour() {
-        WallDamp x = plainWall(2, 0, 1000);
+        WallDamp x = Walls.plain(2, 0, 1000);
         x.outside(0, -100, 0, 0, 0);
         x.inside(0, -100, 0);
         x.water(0, 9000);
@@ -274,7 +236,7 @@ public final class HoursTest {
     }
 
     private static void promise15Balance() {
-        WallDamp x = plainWall(3, 700, 300);
+        WallDamp x = Walls.plain(3, 700, 300);
         CHECK.illegalArgument("what -1", () -> x.balance(-1));
         CHECK.illegalArgument("what 6", () -> x.balance(6));
         for (int hour = 0; hour < 24; hour++) {
@@ -336,7 +298,7 @@ public final class HoursTest {
     }
 
     private static void promise16MouldGoesByTheDampBehindTheHour() {
-        WallDamp x = plainWall(2, 0, 1000);
+        WallDamp x = Walls.plain(2, 0, 1000);
         x.growth(600, -5000, 10000, 7);
         x.water(0, 600);
         x.run(1);

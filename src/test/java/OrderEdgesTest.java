@@ -15,7 +15,7 @@ public final class OrderEdgesTest {
         layersUnlikeInThicknessAlone();
         layersUnlikeInLeakAlone();
         oneToFiveCells();
-        everyPlaceOfFive();
+        everyOrderOfFiveMayBeTheDriest();
         behindOneHourUpToFortyEight();
         theLastHourCountsAndNoneBehindIt();
         theSecondDayIsLikeTheFirst();
@@ -143,8 +143,17 @@ public final class OrderEdgesTest {
         }
     }
 
-    private static void everyPlaceOfFive() {
-        asBuilt("five", new Plan(OrderEdgesTest::lively, FIVE), 36, 0, 2, 3, 1, 4);
+    /** "Of all orders": the same five layers stand in each order at first, so that each is the driest once. */
+    private static void everyOrderOfFiveMayBeTheDriest() {
+        int[] driest = {0, 2, 3, 1, 4};
+        asBuilt("five", new Plan(OrderEdgesTest::lively, FIVE), 36, driest);
+        for (int[] due : orders(5)) {
+            int[][] layers = new int[5][];
+            for (int place = 0; place < 5; place++) {
+                layers[due[place]] = FIVE[driest[place]];
+            }
+            row(Arrays.toString(due), new Plan(OrderEdgesTest::lively, layers).asTheyStand(), 36, due);
+        }
     }
 
     /** "behind so many hours (1 .. 48)" */
@@ -251,6 +260,13 @@ public final class OrderEdgesTest {
         x.run(7);
         row("behind hours", x, 12, due);
         row("behind another order", x, 12, due);
+        WallDamp y = new WallDamp(2);
+        y.curve(0, 1, 10000);
+        y.curve(1, 1000, 10000);
+        y.rates(0, 0, 1000, 100);
+        y.cell(1, 1, 10);
+        y.outside(0, 0, 0, 10, 0);
+        row("room for the rain of one", y, 1, 1, 0);
     }
 
     private static void goesByTheClimateOfNow() {

@@ -115,6 +115,13 @@ public final class TermsEdgesTest {
             CHECK.same("nothing comes to the outer cell, material " + material, x.told(0, 0), 0);
             CHECK.same("nothing leaves the cell in between", x.told(1, 0), 1000);
             CHECK.same("nothing comes to the inner cell", x.told(2, 0), 0);
+            for (int k = 0; k < 3; k++) {
+                x.water(k, 1000 - 400 * k);
+            }
+            x.run(2);
+            for (int k = 0; k < 3; k++) {
+                CHECK.same("nothing leaves a wet cell for dry air", x.told(k, 0), 1000 - 400 * k);
+            }
         }
     }
 
@@ -131,6 +138,12 @@ public final class TermsEdgesTest {
             x.run(1);
             CHECK.same("10 of 60, material " + material, x.told(0, 2), 500);
             CHECK.same("40 of 60, material " + material, x.told(1, 2), 2000);
+            WallDamp thick = new WallDamp(1);
+            thick.cell(0, material, 1000);
+            thick.films(0, 1000);
+            thick.inside(0, 4000, 0);
+            thick.run(1);
+            CHECK.same("1000 of 4000, material " + material, thick.told(0, 2), 1000);
         }
     }
 

@@ -6,6 +6,23 @@ final class Walls {
     private Walls() {
     }
 
+    /** Pressure, damp and water are one number (0 .. 10000) in its cells, so that flows can be read off the waters. */
+    static WallDamp plain(int cells, int vapour, int liquid) {
+        WallDamp x = new WallDamp(cells);
+        x.curve(0, 10000, 10000);
+        x.table(0, 10000);
+        x.rates(0, vapour, liquid, 100);
+        return x;
+    }
+
+    /** The damps of the air on both sides, in every hour, at warmth 0. */
+    static void air(WallDamp x, int outer, int inner) {
+        for (int hour = 0; hour < 24; hour++) {
+            x.outside(hour, 0, outer, 0, 0);
+            x.inside(hour, 0, inner);
+        }
+    }
+
     /** Four cells of four materials, wet, in a lively climate; no hour is over. */
     static WallDamp rich() {
         WallDamp x = new WallDamp(RICH_CELLS);
