@@ -2,8 +2,25 @@ import java.util.function.LongSupplier;
 
 /** Counts the answers that are not as due, and tells them. */
 final class Check {
+    private static final long MOST_MILLIS = 300_000;
+
     private int checks = 0;
     private int wrong = 0;
+
+    /** A call that is not refused as it should be may run on for hours: that is a failed test, not one that hangs. */
+    Check() {
+        Thread watch = new Thread(() -> {
+            try {
+                Thread.sleep(MOST_MILLIS);
+            } catch (InterruptedException e) {
+                return;
+            }
+            System.out.println("the test does not end");
+            Runtime.getRuntime().halt(1);
+        });
+        watch.setDaemon(true);
+        watch.start();
+    }
 
     void same(String what, long got, long due) {
         checks++;

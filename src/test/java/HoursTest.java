@@ -245,7 +245,7 @@ public final class HoursTest {
         }
         x.leak(1, 333);
         x.water(2, 8000);
-        for (int i = 0; i < 50; i++) {
+        for (int i = 0; i < 35; i++) {
             x.run(1 + i % 5);
             x.water(i % 3, i * 100);
             long parts = x.balance(5) + x.balance(1) + x.balance(2) - x.balance(3) - x.balance(4);

@@ -3,7 +3,11 @@ import java.util.Random;
 /** Many runs of calls, sound and unsound ones, answered by the program and by the model alike (all promises). */
 public final class ModelTest {
     private static final Check CHECK = new Check();
-    private static final int RUNS = 1500;
+    private static final int RUNS = 3000;
+    /** Nothing is promised of an object behind so many calls. */
+    private static final int CALLS = 512;
+    /** A whole day, and the waters behind it. */
+    private static final int DEAREST = 62;
     private static final int[] STRANGE = {Integer.MIN_VALUE, Integer.MAX_VALUE, -1, 0, 1, 5, 6, 11, 12, 23, 24, 48, 49,
         240, 241, 1000, 1001, -5000, -5001, 5000, 5001, 10000, 10001, 100000, 100001, 1000000, 1000001};
 
@@ -13,6 +17,7 @@ public final class ModelTest {
     private final int cells;
     private final boolean coarse;
     private String trace = "";
+    private int calls = 0;
 
     private ModelTest(long seed) {
         random = new Random(seed);
@@ -37,16 +42,17 @@ public final class ModelTest {
 
     private boolean runAll() {
         boolean same = true;
-        for (int i = 0; i < 40 && same; i++) {
+        for (int i = 0; i < 40 && same && calls < CALLS / 2; i++) {
             same = setUp(random.nextInt(11));
         }
-        for (int i = 0; i < 60 && same; i++) {
-            same = goOn(random.nextInt(24)) && allTold();
+        while (same && calls < CALLS - DEAREST - allTolds()) {
+            same = goOn(random.nextInt(24)) && watersTold();
         }
-        return same;
+        return same && allTold();
     }
 
     private boolean compare(String call, String got, String due) {
+        calls++;
         trace = call + " answered " + got + ", due is " + due;
         return got.equals(due);
     }
@@ -115,6 +121,19 @@ public final class ModelTest {
                 && inside(hour, number(-1000, 3000), number(0, 10000));
         }
         return same;
+    }
+
+    private boolean watersTold() {
+        for (int k = 0; k < cells; k++) {
+            if (!told(k, 0)) {
+                return false;
+            }
+        }
+        return compare("mould", "" + program.mould(), "" + model.mould());
+    }
+
+    private int allTolds() {
+        return 6 * cells + 7;
     }
 
     private boolean allTold() {

@@ -423,7 +423,7 @@ public final class PromiseEdgesTest {
 
     private static void promise15NoneOfTheWaterLost() {
         WallDamp x = Walls.rich();
-        for (int i = 0; i < 60; i++) {
+        for (int i = 0; i < 20; i++) {
             x.run(1 + i % 7);
             x.water(i % 4, i);
             long sum = x.balance(5) + x.balance(1) + x.balance(2) - x.balance(3) - x.balance(4);

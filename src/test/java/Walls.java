@@ -106,7 +106,10 @@ final class Walls {
         return text.append("mould ").append(x.mould()).append('\n').toString();
     }
 
-    /** What a wall answers from now on, so that what it holds unseen can be compared too; uses it up. */
+    /**
+     * What a wall answers from now on, so that what it holds unseen can be compared too. Some 350 calls: nothing is
+     * promised of an object behind its 512th.
+     */
     static String future(WallDamp x, int cells) {
         StringBuilder text = new StringBuilder(portrait(x, cells));
         for (int hours = 1; hours <= 25; hours += 8) {
@@ -121,8 +124,12 @@ final class Walls {
             text.append("curve ").append(Check.outcome(() -> x.curve(one, 1000000, 10000))).append('\n');
         }
         for (int hour = 0; hour < 26; hour++) {
-            text.append("run ").append(Check.outcome(() -> x.run(1))).append('\n').append(portrait(x, cells));
+            text.append("run ").append(Check.outcome(() -> x.run(1))).append(' ').append(x.mould()).append(' ');
+            for (int k = 0; k < cells; k++) {
+                text.append(x.told(k, 0)).append(' ');
+            }
         }
+        text.append('\n').append(portrait(x, cells));
         for (int k = 0; k < cells; k++) {
             text.append("leak ").append(x.leak(k, 0)).append('\n');
         }
