@@ -525,7 +525,7 @@ public final class WallDamp {
         }
     }
 
-    /** Water on its way in an hour between two neighbours, either way. */
+    /** Water on its way in an hour between two places, either way. */
     private static final class Flow {
         final Place outer;
         final Place inner;

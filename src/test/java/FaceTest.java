@@ -89,10 +89,18 @@ public final class FaceTest {
         for (Class<?> one : inner) {
             CHECK.holds(one + " is static", Modifier.isStatic(one.getModifiers()));
             CHECK.holds(one + " is hidden", !Modifier.isPublic(one.getModifiers()) && !Modifier.isProtected(one.getModifiers()));
-            for (Field field : one.getDeclaredFields()) {
-                boolean fixed = Modifier.isFinal(field.getModifiers());
-                CHECK.holds(field + " is no static state", !Modifier.isStatic(field.getModifiers()) || fixed);
-            }
+            ownFields(one);
         }
+        ownFields(WallDamp.class);
+    }
+
+    private static void ownFields(Class<?> one) {
+        int own = 0;
+        for (Field field : one.getDeclaredFields()) {
+            boolean shared = Modifier.isStatic(field.getModifiers());
+            CHECK.holds(field + " is no static state", !shared || Modifier.isFinal(field.getModifiers()));
+            own += shared ? 0 : 1;
+        }
+        CHECK.holds(one + " has some twenty fields at most", own <= 20);
     }
 }

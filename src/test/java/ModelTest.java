@@ -75,7 +75,7 @@ public final class ModelTest {
             case 0 -> run(number(1, 240));
             case 1, 2, 3, 4, 5, 6, 7 -> run(1 + random.nextInt(3));
             case 8, 9 -> leak(place(), number(0, 1000));
-            case 10, 11, 12 -> water(place(), random.nextInt(1 + random.nextInt(2000)));
+            case 10, 11, 12 -> water(place(), random.nextInt(1 + random.nextInt(coarse ? 60 : 1000000)));
             case 13 -> films(number(0, 1000), number(0, 1000));
             case 14 -> order(number(1, 48), place());
             case 15 -> full(number(-5000, 10000));

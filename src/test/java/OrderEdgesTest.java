@@ -24,6 +24,7 @@ public final class OrderEdgesTest {
         rowsAreOfTheCellsOfNow();
         beginsAtHourNought();
         beginsWithWaterNought();
+        beginsWithNoLessThanNought();
         goesByTheClimateOfNow();
         nothingIsChanged();
         CHECK.end();
@@ -267,6 +268,18 @@ public final class OrderEdgesTest {
         y.cell(1, 1, 10);
         y.outside(0, 0, 0, 10, 0);
         row("room for the rain of one", y, 1, 1, 0);
+    }
+
+    /** A layer that is filled holds the same wherever it began, one that is not does not: here both hold 10 then. */
+    private static void beginsWithNoLessThanNought() {
+        Plan two = new Plan(x -> {
+            x.curve(0, 10, 10000);
+            x.curve(1, 1000, 10000);
+            x.rates(0, 0, 100, 100);
+            x.rates(1, 0, 50, 100);
+            x.outside(0, 0, 0, 20, 0);
+        }, new int[] {0, 10, 0}, new int[] {1, 10, 0});
+        asBuilt("10 of 20 that find room, or 10", two, 1, 0, 1);
     }
 
     private static void goesByTheClimateOfNow() {
